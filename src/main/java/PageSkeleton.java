@@ -29,8 +29,10 @@ public final class PageSkeleton {
 
     // Folding lengthens a line by 1 only where it makes two single tokens a repeat: 90 is the most for a page.
     private static final int PAGE_LINE = 96;
-    // Far above what 160 tags, words and fields, with a page's 60 more, need with the repeats and options round them.
-    private static final int LINE = 1536;
+    // Nothing takes more room than a tag that is alone in a repeat that is alone in an option: five signs. A skeleton
+    // has up to 160 tags, words and fields, and a page that is tried on it 60 more; four pages have 240 together, but
+    // then at most half of them can be alone in repeats.
+    private static final int LINE = 1100;
     // No loop comes near it: it is the end that such loops show whose true end lies in what they work on.
     private static final int MOST_TURNS = 1000000;
 
@@ -685,7 +687,9 @@ public final class PageSkeleton {
 
         int lettersOf(int token) {
             int letters = 0;
-            for (int name = keys[token] / 3; name > 0; name /= 27) {
+            int name = keys[token] / 3;
+            while (letters < MOST_LETTERS && name > 0) {
+                name /= 27;
                 letters++;
             }
             return letters;
@@ -851,9 +855,9 @@ public final class PageSkeleton {
             return ahead[after(at)] - ahead[at];
         }
 
-        /** Always behind the place itself, so that steps from item to item end. */
+        /** Where the next item begins, or the row ends. */
         int after(int at) {
-            return Math.max(at, mate[at]) + 1;
+            return mate[at] + 1;
         }
 
         boolean endsAt(int at) {
@@ -992,7 +996,7 @@ public final class PageSkeleton {
         private int itemsIn(int at) {
             int items = 0;
             if (isOpen(code[at])) {
-                for (int i = at + 1; i < mate[at]; i = after(i)) {
+                for (int i = at + 1; i < mate[at]; i = Math.max(i + 1, after(i))) {
                     items++;
                 }
             }
@@ -1040,7 +1044,7 @@ public final class PageSkeleton {
         }
 
         private boolean joinTwins(Row row, int from, int to) {
-            for (int i = from; i < to; i = row.after(i)) {
+            for (int i = from; i < to; i = Math.max(i + 1, row.after(i))) {
                 int next = row.after(i);
                 if (next < to && row.code[i] == REPEAT && row.code[next] == REPEAT) {
                     int signs = next - i;
@@ -1053,7 +1057,7 @@ public final class PageSkeleton {
         }
 
         private boolean joinAhead(Row row, int from, int to) {
-            for (int i = from; i < to; i = row.after(i)) {
+            for (int i = from; i < to; i = Math.max(i + 1, row.after(i))) {
                 if (row.code[i] == REPEAT) {
                     int signs = row.mate[i] - i - 1;
                     if (i - signs >= from && row.matches(i - signs, row, i + 1, signs)) {
@@ -1065,7 +1069,7 @@ public final class PageSkeleton {
         }
 
         private boolean joinBehind(Row row, int from, int to) {
-            for (int i = from; i < to; i = row.after(i)) {
+            for (int i = from; i < to; i = Math.max(i + 1, row.after(i))) {
                 if (row.code[i] == REPEAT) {
                     int signs = row.mate[i] - i - 1;
                     int next = row.mate[i] + 1;
@@ -1106,7 +1110,7 @@ public final class PageSkeleton {
         private void findItems(Row row, int from, int to) {
             items = 0;
             firmAhead[0] = 0;
-            for (int i = from; i < to && items < LINE; i = row.after(i)) {
+            for (int i = from; i < to && items < LINE; i = Math.max(i + 1, row.after(i))) {
                 boolean firm = isTag(row.code[i]) || row.code[i] == REPEAT;
                 begin[items] = i;
                 firmAhead[items + 1] = firmAhead[items] + (firm ? 1 : 0);
