@@ -261,6 +261,19 @@ public final class PromiseTest {
         fault(many("<a>", 60) + "b1", 2, 180);
         fault(many("<a>", 60) + " 1", 1, 181);
         fault(many("<a>", 59) + "1<b>", 1, 177);
+        // What stands on the tape behind the text is not read.
+        PageSkeleton cut = new PageSkeleton();
+        feed(cut, "<a>");
+        is("<a without its end", cut.page(2), -9);
+        is("its place", cut.fault(), 2);
+        feed(cut, "</a>");
+        is("< alone", cut.page(1), -9);
+        is("its place", cut.fault(), 1);
+        feed(cut, "ab");
+        is("a word of one letter", cut.page(1), 0);
+        is("one letter", cut.tokenOf(0, 1), 1);
+        feed(cut, "abcdefg");
+        is("a word of six letters", cut.page(6), 1);
         PageSkeleton x = of(tags('a', 60), tags('b', 60), tags('c', 60));
         is("180 unlike", x.told(1), 180);
         is("the 201st", tell(x, tags('d', 20) + tags('a', 5) + "<zz>"), -8);
@@ -304,6 +317,11 @@ public final class PromiseTest {
         skeletonIs(laid("<a><b><a><b>", "<a><c><a><c>"), "{<a>[<b>][<c>]}");
         skeletonIs(laid("<a><a>", "<b><b>"), "[{<a>}][{<b>}]");
         skeletonIs(laid("<p>" + many("<a>x", 2), "<p>" + many("<b>x", 2)), "<p>{[<a>][<b>] x }");
+        // A repeat among what comes of it is no option, whichever of the two it is from.
+        String list = many("<a><b>", 2);
+        skeletonIs(laid(list, many("<c>" + list, 2)), "{[<c>]{<a><b>}}");
+        skeletonIs(laid(many("<c>" + list, 2), list), "{[<c>]{<a><b>}}");
+        skeletonIs(laid(many("<c>" + list, 2), many("<d>" + list, 2)), "{[<c>][<d>]{<a><b>}}");
         // WAY 1 is ahead of WAY 2 where they cost alike, and what costs least ahead of all.
         skeletonIs(laid("<a>", "<a><b>"), "<a>[<b>]");
         skeletonIs(laid("<a><b>", "<b><a>"), "[<a>]<b>[<a>]");
@@ -348,6 +366,11 @@ public final class PromiseTest {
         // A repeat with such right ahead of it; right behind it.
         tidies(laid("<a><b><b><a><b><a><b>", "<a><b>" + NESTED), "<a>{<b>}{<a>{<b>}}", 1, "{<a>{<b>}}");
         tidies(laid(PLAIN + "<a><b><b>", NESTED + "<a><b>"), "{<a>{<b>}}<a>{<b>}", 1, "{<a>{<b>}}");
+        // The same behind a tag.
+        tidies(laid("<x>" + PLAIN + NESTED, "<x>" + NESTED + PLAIN), "<x>{<a>{<b>}}{<a>{<b>}}", 1, "<x>{<a>{<b>}}");
+        tidies(laid("<x><a><b><b><a><b><a><b>", "<x><a><b>" + NESTED), "<x><a>{<b>}{<a>{<b>}}", 1, "<x>{<a>{<b>}}");
+        tidies(laid("<x>" + PLAIN + "<a><b><b>", "<x>" + NESTED + "<a><b>"), "<x>{<a>{<b>}}<a>{<b>}", 1,
+            "<x>{<a>{<b>}}");
         // Folded once.
         tidies(laid("<a><b><a><b><b>", "<a><b><b><a><b>"), "<a>{<b>}<a>{<b>}", 1, "{<a>{<b>}}");
         // An option folds along with a tag, and words become a field.
