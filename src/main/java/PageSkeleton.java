@@ -151,7 +151,7 @@ public final class PageSkeleton {
         skeleton.empty();
         skeleton.seal();
         past.count = 0;
-        costs = 0;
+        // The costs stay: what was laid is cleared, but not taken back.
         stamp++;
         return size;
     }

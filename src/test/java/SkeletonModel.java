@@ -760,7 +760,6 @@ final class SkeletonModel {
         int size = size(skeleton);
         become(new ArrayList<>());
         past.clear();
-        costs = 0;
         return size;
     }
 
