@@ -14,6 +14,7 @@ public final class CallEdgeTest extends Checks {
         sentence("how many calls were refused", CallEdgeTest::refusalsCounted);
         sentence("NONE for others", CallEdgeTest::noSuchStatus);
         sentence("asked, nothing stays changed", CallEdgeTest::askedNothingChanges);
+        sentence("asked earlier, nothing stays", CallEdgeTest::askedEarlierNothingStays);
         sentence("the latest 16 can be taken back", CallEdgeTest::latestSixteen);
         sentence("the SKELETON is as ahead of the latest lay(), tidy()", CallEdgeTest::asAhead);
         sentence("its SIZE; NONE: there is none", CallEdgeTest::undoAnswers);
@@ -354,6 +355,42 @@ public final class CallEdgeTest extends Checks {
         same("asked of both", everythingAsked(x), everythingAsked(y));
     }
 
+    private static void change(PageSkeleton x, char by) {
+        switch (by) {
+            case 'T' -> x.tidy();
+            case 'U' -> x.undo();
+            case 'C' -> x.clear();
+            default -> x.lay(by - '0');
+        }
+    }
+
+    private static PageSkeleton changed(String run, int asked) {
+        String plain = "<a><b><a><b>";
+        String nested = "<a><b><b><a><b><b>";
+        PageSkeleton x = of(plain + nested, nested + plain, "<a>x<q>", "<a>y");
+        for (int i = 0; i < run.length(); i++) {
+            if (i == asked) {
+                everythingAsked(x);
+            }
+            change(x, run.charAt(i));
+        }
+        return x;
+    }
+
+    /** Asked once ahead of one of the changes, or never: behind all of them it is the same. */
+    private static void askedEarlierNothingStays() {
+        String[] runs = {"01TU", "01T2U3", "0C1TC", "10TUU2", "2U3C01TUUU", "0UUC1", "01UTU", "3210TC", "01T3TUUU"};
+        for (String run : runs) {
+            for (int length = 1; length <= run.length(); length++) {
+                String part = run.substring(0, length);
+                String due = everythingAsked(changed(part, -1));
+                for (int asked = 0; asked < length; asked++) {
+                    same("behind " + part + ", asked at " + asked, everythingAsked(changed(part, asked)), due);
+                }
+            }
+        }
+    }
+
     private static void latestSixteen() {
         for (int more = 15; more <= 18; more++) {
             PageSkeleton x = of("<a>", "<b>", "<c>");
@@ -531,6 +568,20 @@ public final class CallEdgeTest extends Checks {
         is("nodes", x.told(2), x.told(3) + x.told(5) + x.told(6));
         is("pages", x.told(0), 4);
         is("unlike tokens", x.told(1), 7);
+        // What has been, but is no more.
+        String[] texts = {"<a>x<a>x", "x", "<b>"};
+        for (String first : texts) {
+            PageSkeleton z = laid(first, "y", "<c>");
+            z.clear();
+            for (int what = 2; what <= 7; what++) {
+                is("cleared, told(" + what + ")", z.told(what), 0);
+            }
+            z.lay(2);
+            int[] due = {1, 1, 0, 0, 0, 1};
+            for (int what = 2; what <= 7; what++) {
+                is("of one tag, told(" + what + ")", z.told(what), due[what - 2]);
+            }
+        }
         PageSkeleton y = of("x y");
         is("no field", y.told(4), 0);
         y.lay(0);

@@ -93,6 +93,19 @@ public final class RowEdgeTest extends Checks {
 
     private static void beginsFirst() {
         folds("<a><a><b><b>", "{<a>}{<b>}", 1, 0, 2, 1, 1, 2);
+        // As many steps as thirty of a length of 1.
+        int[] steps = new int[90];
+        StringBuilder pairs = new StringBuilder();
+        StringBuilder folded = new StringBuilder();
+        for (int i = 0; i < 30; i++) {
+            String tag = tags('a', 30).substring(i * 5, i * 5 + 5);
+            pairs.append(tag).append(tag);
+            folded.append("{").append(tag).append("}");
+            steps[i * 3] = 1;
+            steps[i * 3 + 1] = i;
+            steps[i * 3 + 2] = 2;
+        }
+        folds(pairs.toString(), folded.toString(), steps);
         folds("<a>x<a>x<a>", "{<a> x }<a>", 2, 0, 2);
         folds("x<a>x<a>x", "{ x <a>} x ", 2, 0, 2);
         folds("<b><a><b><a><b>", "{<b><a>}<b>", 2, 0, 2);
@@ -381,8 +394,31 @@ public final class RowEdgeTest extends Checks {
         lays("<a>[<b>]", 0, "<a><b>", "<a>", "<a>");
         lays("<a>[<b>][<c>]", 1, "<a><b>", "<a>", "<a><c>");
         lays("<a>[{<b>}]", 1, "<a>", "<a><b><b>");
+        shorterThanBefore();
         lays("{<a>[<b>]}", 1, "<a><b><a><b>", "<a><a>");
         lays("{<a>[<b>]}", 1, "<a><a>", "<a><b><a><b>");
+    }
+
+    // The row was longer once: what stood there is no next one.
+    private static void shorterThanBefore() {
+        PageSkeleton x = of("<a><b>", "<a>", "<a><b><a><b>", "<c><c><c><c><c><d><a>", "<a><d><a><d>");
+        x.lay(0);
+        x.clear();
+        x.lay(1);
+        is("one item for a repeat of two", x.lay(2), 3);
+        skeletonIs(x, "[<a>][{<a><b>}]");
+        x.clear();
+        x.lay(4);
+        is("a page that was longer ahead of its folding", x.lay(3), 5);
+        skeletonIs(x, "[{<a><d>}][{<c>}<d><a>]");
+        x.clear();
+        x.lay(2);
+        x.lay(1);
+        x.undo();
+        x.undo();
+        x.lay(1);
+        is("behind what was taken back", x.lay(0), 1);
+        skeletonIs(x, "<a>[<b>]");
     }
 
     private static void leastCost() {
@@ -549,6 +585,13 @@ public final class RowEdgeTest extends Checks {
         tidies(laid("<a><b><a><b><b>", "<a><b><b><a><b>", "<q>"), "[<a>{<b>}<a>{<b>}][<q>]", 1, "[{<a>{<b>}}][<q>]");
         tidies(laid(many("<u>" + PLAIN + NESTED + "<v>", 2), many("<u>" + NESTED + PLAIN + "<v>", 2)),
             "{<u>{<a>{<b>}}{<a>{<b>}}<v>}", 1, "{<u>{<a>{<b>}}<v>}");
+        // Inside first, each row: not what stands behind the row that is tidied, though it could be.
+        String plain = "<u><a><b><a><b><b>";
+        String nested = "<u><a><b><b><a><b>";
+        tidies(laid(plain + plain + nested + nested, nested + nested + plain + plain),
+            "{<u><a>{<b>}<a>{<b>}}{<u><a>{<b>}<a>{<b>}}", 3, "{<u>{<a>{<b>}}}");
+        tidies(laid("<q><q>" + plain + plain + nested + nested, "<q><q>" + nested + nested + plain + plain),
+            "{<q>}{<u><a>{<b>}<a>{<b>}}{<u><a>{<b>}<a>{<b>}}", 3, "{<q>}{<u>{<a>{<b>}}}");
         // Inside first: only then are the rows round them alike.
         tidies(laid("<u>" + PLAIN + NESTED + "<v><u>" + NESTED + "<v>", "<u>" + NESTED + PLAIN + "<v><u>" + NESTED + "<v>"),
             "<u>{<a>{<b>}}{<a>{<b>}}<v><u>{<a>{<b>}}<v>", 2, "{<u>{<a>{<b>}}<v>}");

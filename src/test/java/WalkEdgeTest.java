@@ -67,6 +67,20 @@ public final class WalkEdgeTest extends Checks {
         fit(x, "+-++-");
         is("passes", x.passes(3, 0), 59);
         is("one way alone", x.ways(3), 1);
+        // A pass that begins with an option.
+        PageSkeleton z = laid("<a><b><a><b>", "<b><b>");
+        skeletonIs(z, "{[<a>]<b>}");
+        tell(z, "<b><a><b>");
+        tell(z, "<a><b><b>");
+        tell(z, "<b><b><a><b><a><b><b>");
+        tell(z, "<b><a><a><b>");
+        tell(z, "<b><a>");
+        fit(z, "+++++--");
+        int[] passes = {2, 2, 2, 2, 5, -1, -1};
+        for (int page = 0; page < passes.length; page++) {
+            is("passes of " + page, z.passes(page, 0), passes[page]);
+            is("one way alone", z.ways(page), passes[page] > 0 ? 1 : 0);
+        }
         PageSkeleton y = laid("<a>x<a>y", "<a>z");
         tell(y, many("<a>x", 30));
         tell(y, many("<a>x", 29) + "<a>");
@@ -217,6 +231,8 @@ public final class WalkEdgeTest extends Checks {
         }
         PageSkeleton word = laid("<a>x");
         is("a word is none", word.value(0, 1, 0), -1);
+        is("the first token", laid("x<a>", "y<a>").value(1, 0, 0), 2);
+        is("the last token", laid("<a>x", "<a>y").value(1, 1, 0), 2);
         is("one of two fields", laid("<a>x y", "<a>z w").value(0, 2, 0), 2);
         is("one of two fields", laid("<a>x y", "<a>z w").value(1, 1, 0), 3);
     }
@@ -249,6 +265,7 @@ public final class WalkEdgeTest extends Checks {
         is("none of a page that does not fit", x.unlike(2), 3);
         tell(x, "<u>v<u>v<u>x");
         is("each word once", x.unlike(2), 4);
+        is("at the first token", laid("x<a>", "y<a>").unlike(0), 2);
         PageSkeleton y = laid("<a>x y", "<a>y x");
         is("each field for itself", y.unlike(1), 2);
         is("each field for itself", y.unlike(2), 2);
@@ -395,6 +412,16 @@ public final class WalkEdgeTest extends Checks {
             is("users(" + node + ")", x.users(node), due[node]);
         }
         is("those that fit", x.fitting(), 0xd5);
+        // A text of no token would fit, but is no page.
+        PageSkeleton none = laid("<a>", "<b>");
+        skeletonIs(none, "[<a>][<b>]");
+        is("pages alone", none.fitting(), 3);
+        is("pages alone", none.tidied(3), 2);
+        int[] pages = {1, 1, 2, 2};
+        for (int node = 0; node < 4; node++) {
+            is("users(" + node + ")", none.users(node), pages[node]);
+            is("greatest(" + node + ")", none.greatest(node), 1);
+        }
         // It fits, but by another node.
         PageSkeleton y = laid("x<b>", "<b>", "w x<b>", "z<b>");
         skeletonIs(y, "[?][ x ]<b>");
@@ -413,6 +440,13 @@ public final class WalkEdgeTest extends Checks {
             is("greatest(" + node + ")", x.greatest(node), due[node]);
         }
         noElement(x, "greatest(5)", () -> x.greatest(5));
+        PageSkeleton eight = of("<b>", "<b>", "<b>", "<b>", "<b>", "<b>", "<b>", "<a><a><a>");
+        eight.lay(7);
+        is("the last of eight alone", eight.greatest(1), 3);
+        is("its bit", eight.users(1), 128);
+        eight.lay(0);
+        is("the last of eight", eight.greatest(2), 3);
+        is("the others", eight.greatest(4), 1);
     }
 
     private static void fittingBits() {
