@@ -680,6 +680,8 @@ public final class CallEdgeTest extends Checks {
         ordersAre(of("<a>", "<a>", "<b>"), 2, 2, 0, 4);
         ordersAre(of("<b>", "<a>", "<a>"), 2, 2, 0, 2);
         ordersAre(of("<a><a>", "<a>"), 1, 0, 0, 2);
+        // Two of the ends are unlike at their very beginning alone: {<b>}[<a>].. and [<b>][<a>]..
+        ordersAre(of("<b>", "<b>y<a>y<b>x<b>", "<b><a>y<b><b>", "<b><b><a><a>"), 14, 6, 9, 1);
     }
 
     private static void firstOrder() {
